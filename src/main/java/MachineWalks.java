@@ -1250,7 +1250,7 @@ public final class MachineWalks {
     /** Shelves that hold nothing, a load or a row. Rows are made once, so that no call makes any. */
     private static final class Shelves {
         static final int MOST = 60, BYTES = 0;
-        private static final int SHELVES = 6, SHORTS = 1, INTS = 2, LONGS = 3, BOOLEANS = 4;
+        private static final int SHELVES = 6, SHORTS = 1, INTS = 2, BOOLEANS = 4;
         private static final int NOTHING = 0, LOAD = 1, ROW = 2;
 
         private final int[] holds, loads, sorts, lengths;

@@ -103,6 +103,9 @@ final class LawsTest {
         Due.due("120 bytes that end too early", Due.law(new MachineWalks(), long120 + "+"), -220);
         Due.due("120 bytes", Due.law(new MachineWalks(), "1" + long120), -101);
         Due.due("120 bytes", Due.law(new MachineWalks(), "-" + long120), 0);
+        Due.due("120 steps", worth("-1" + "+1".repeat(59)), 58);
+        Due.due("six brackets, a pending sign in each", worth("1+(1+(1+(1+(1+(1+(1*2))))))"), 8);
+        Due.due("all signs pending in each", worth("0|1&2=1+1*(0|1&1=1+0*(1|1&1<1+1*(4)))"), 1);
         StringBuilder sum = new StringBuilder("10");
         while (sum.length() < 119) sum.append("+1");
         Due.due("a sum of 120 bytes", worth(sum.toString()), 69);

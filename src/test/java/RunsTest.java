@@ -57,6 +57,20 @@ final class RunsTest {
         for (int k = 0; k < 5; k++) Due.due("did(" + k + ")", x.did(k), did[k]);
         x.run(0, 601003, 5, 0);
         Due.due("never at GOAL", x.did(0), -2);
+        MachineWalks last = heavy("0");
+        for (int k = 1; k < 4; k++) {
+            last.floor(200 * k, 909);
+            Due.law(last, "" + 333 * k);
+        }
+        for (int k = 0; k < 16; k++) {
+            int grip = Math.max(1, 200 * (k % 4));
+            last.run(k / 4 * 10 + k % 4, 999001, 0, 0);
+            Due.due("PACE by RULE " + k / 4, last.led(0, 0), 333 * (k / 4));
+            Due.due("hops on FLOOR " + k % 4, last.led(-1, 2), last.led(0, 2) > grip ? 1 : 0);
+            Due.due("GOAL 999", last.did(0), k / 4 == 3 ? 0 : -2);
+        }
+        last.run(30, 1000001, 0, 0);
+        Due.due("GOAL 1000", last.did(0), -2);
         MachineWalks y = heavy("p+100");
         Due.due("p as it was", y.run(0, 300200, 5, 0), 1200);
         led(y, "p+100", 0, 100, 200, 300, 400, 500, 600, 700, 800, 900, 1000, 1100, 1200, 1200);
@@ -210,6 +224,14 @@ final class RunsTest {
         Due.due("503 is a knock", x.led(-1, 1), 3);
         Due.due("503 on 500 is a hop", x.led(-1, 2), 3);
         led(x, "hops by 3", 3, 4, 8, 12);
+        x.set(1, 115);
+        x.mend(0, 1, 10);
+        x.run(1, 100001, 0, 0);
+        Due.due("60 * 961 / 115", x.led(0, 2), 501);
+        Due.due("501 is a knock", x.led(-1, 1), 1);
+        Due.due("501 on 500 is a hop", x.led(0, 3), 2);
+        x.mend(0, 1, 50);
+        x.set(1, 191);
         x.mend(0, 2, 4);
         x.run(1, 100002, 0, 0);
         // LOPSIDED (866 + 187 = 1053) / 10 = 105; 105 * 961 / 191 = 528; 28 above

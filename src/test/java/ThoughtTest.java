@@ -140,6 +140,13 @@ final class ThoughtTest {
         x.set(4, x.did(3) - 1);
         Due.due("all STOPPED", x.loads(0, 600007, 0, 3), 7);
         Due.due("in thought", x.of(0, 1), 50);
+        MachineWalks last = heavy("0", "0", "0", "1000");
+        for (int k = 0; k < 3; k++) last.floor(999, 909);
+        Due.due("the last RULE on the first FLOOR, DONE", last.loads(30, 1000003, 0, 0), 3);
+        Due.due("the last RULE on the last FLOOR, DONE", last.loads(33, 1000003, 0, 0), 3);
+        Due.due("the last RULE on the first FLOOR, WALKED", last.loads(30, 1000003, 0, 2) > 0 ? 1 : 0, 1);
+        Due.due("the last RULE on the last FLOOR, WALKED", last.loads(33, 1000003, 0, 2), 0);
+        Due.due("the last RULE, beyond its PACE", last.loads(33, 1001003, 0, 0), 0);
         MachineWalks y = heavy("t<5?0;400+t*10");
         y.lump(3050, 30);
         y.water(Due.law(y, "l/40"));
@@ -178,6 +185,14 @@ final class ThoughtTest {
         // the first walks by some 50 in each TICK, the second by some 14
         MachineWalks walks = heavy("1200", "t<2?1200;130");
         Due.due("least WALKED ahead of least LEFT", walks.best(0, 1200, 0), 1);
+        // seen first by SEEDS 0 to 9: -2, 25, -48, -21, 1, 29, -45, -17, 5, 33
+        MachineWalks nine = new MachineWalks();
+        nine.floor(1, 909);
+        nine.set(3, 50);
+        Due.law(nine, "0");
+        Due.law(nine, "t<1&d>30?1200;0");
+        Due.due("SEEDS 0 to 8", nine.best(0, 1200, 0), 0);
+        Due.due("SEEDS 1 to 9", nine.best(0, 1200, 1), 1);
         MachineWalks one = heavy("0");
         Due.due("the only one", one.best(0, 800, 0), 0);
     }
