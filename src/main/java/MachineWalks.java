@@ -657,7 +657,7 @@ public final class MachineWalks {
             return place < many && place < MOST ? bytes[place] : 0;
         }
 
-        /** Levels 0 to 4 are E and A, B, S, P of the document: the signs that bind loosest come first. */
+        /** Levels 0 to 4 are E, A, B, S, P of the document, level 5 is O: the signs that bind loosest come first. */
         private boolean isRead(int level, int open) {
             if (level >= OPERANDS) return operandIsRead(open);
             if (!isRead(level + 1, open)) return false;
