@@ -145,6 +145,13 @@ final class LawSentences {
         x.law("34").is(1);
         x.floor(999, 909);
         x.run(10, 700001, 0, 0).is(34);
+        // nothing of a text with a FAULT comes into the next LAW
+        x.law("5;1?6;x").is(-106);
+        x.law("56").is(2);
+        x.run(20, 700001, 0, 0).is(56);
+        x.law("0?7;1?").is(-106);
+        x.law("0?8").is(3);
+        x.run(30, 700001, 0, 0).is(0);
     }
 
     static void fullTapeStays() {
@@ -200,6 +207,10 @@ final class LawSentences {
         gives("1?5;6", 5);
         gives("-1?5;6", 5);
         gives("0?5;6", 6);
+        gives("0|2?5;6", 5);
+        gives("1?0|2;6", 1);
+        gives("1?0|0;6", 0);
+        gives("1?4-2*3+9&1|0;6", 1);
         fault("1?2?3", 3);
         fault("?1", 0);
         fault("(1?2)", 2);
@@ -282,6 +293,7 @@ final class LawSentences {
         gives("9", 9);
         gives("0012", 12);
         gives("9999/9", 1111);
+        everyNumber();
         fault("12345", 4);
         fault("00000", 4);
         fault("1w", 1);
@@ -294,6 +306,22 @@ final class LawSentences {
         fault("(5", 2);
         fault("5)", 1);
         fault("(5;5)", 2);
+    }
+
+    /** Each number stands for itself, and for nothing else: its first digits by a RULE, its last one by another. */
+    private static void everyNumber() {
+        for (int n = 0; n < 10000; n += 2) {
+            Asked x = new Asked();
+            x.floor(999, 909);
+            for (int k = 0; k < 2; k++) {
+                x.law(n + k + "/10").is(2 * k);
+                x.law(n + k + "%10").is(2 * k + 1);
+            }
+            for (int k = 0; k < 2; k++) {
+                x.run(20 * k, 700001, 0, 0).is((n + k) / 10);
+                x.run(20 * k + 10, 700001, 0, 0).is((n + k) % 10);
+            }
+        }
     }
 
     static void noBlanks() {
@@ -358,10 +386,18 @@ final class LawSentences {
     static void sixOpen() {
         Due.stands("At most 6 of ( ! - ahead of an O are open at once.", 12);
         String[] six = {"((((((1))))))", "!!!!!!1", "------1", "(!-(!-1))", "-(((((1)))))", "(((((!1)))))", "!!!!!(1)"};
-        for (String s : six) isLaw(s);
+        for (String s : six) {
+            isLaw(s);
+            isLaw("1?" + s);
+            isLaw(s + "?1;" + s);
+        }
         String[] seven = {"(((((((1)))))))", "!!!!!!!1", "-------1", "(!-(!-(1)))", "-((((((1))))))", "((((((!1))))))", "!!!!!!(1)",
             "((((((-1))))))"};
-        for (String s : seven) fault(s, 6);
+        for (String s : seven) {
+            fault(s, 6);
+            fault("1?" + s, 8);
+            fault("1;" + s, 8);
+        }
         fault("1+(((((((1", 8);
         // those that are closed are open no more; those that stand between two O are not ahead of one
         isLaw("((((((1))))))+((((((1))))))");
@@ -425,6 +461,9 @@ final class LawSentences {
         gives("!1", 0);
         gives("!5", 0);
         gives("!-1", 0);
+        // 0 and nothing below it
+        String[] none = {"0|0", "5&0", "0&0", "5<5", "5=4", "5>5", "!1", "!-1"};
+        for (String n : none) gives("600+(" + n + ")", 600);
     }
 
     static void allIsWorkedOut() {
@@ -491,7 +530,9 @@ final class LawSentences {
 
     static void withoutWatersLaw() {
         Due.stands("without one: WET PACE / 6000 (cut)).", 13, 14);
-        int[][] wetPaceBehind = {{99, 60, 99}, {50, 119, 50}, {50, 120, 49}, {49, 120, 49}, {5, 1199, 5}, {5, 1200, 4}, {99, 1200, 80}};
+        int[][] wetPaceBehind = {{99, 60, 99}, {50, 119, 50}, {50, 120, 49}, {49, 120, 49}, {5, 1199, 5}, {5, 1200, 4}, {99, 1200, 80},
+            // 5999 and 6001, 11999 and 12001 by 6000
+            {7, 857, 7}, {17, 353, 16}, {13, 923, 12}, {11, 1091, 9}};
         for (int[] w : wetPaceBehind) {
             Asked x = new Asked().lump(100 + w[0], 9);
             x.floor(999, 909);

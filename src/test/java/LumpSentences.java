@@ -183,6 +183,11 @@ final class LumpSentences {
         x.load(1).is(0);
         x.counter(0);
         x.load(1).is(86);
+        Asked most = new Asked();
+        most.counter(9906);
+        most.load(1).is(-9900);
+        most.counter(9911);
+        most.load(1).is(8573);
     }
 
     static void along() {
@@ -195,6 +200,11 @@ final class LumpSentences {
         x.load(2).is(692);
         x.counter(108);
         x.load(2).is(520);
+        Asked most = new Asked();
+        most.counter(9903);
+        most.load(2).is(9900);
+        most.counter(9911);
+        most.load(2).is(-4950);
     }
 
     static void counterweight() {

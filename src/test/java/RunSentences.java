@@ -80,6 +80,15 @@ final class RunSentences {
         x.best(0, 1200, 0).is(0);
         x.never(0, 100, 0).is(1);
         x.never(0, 1200, 0).is(1);
+        Asked y = heavy("1200", "1199", "100", "99");
+        int[][] doneAtRule = {{1200, 0, 1}, {800, 1, -1}, {800, 0, -1}, {100, 2, 3}};
+        for (int[] d : doneAtRule) {
+            y.run(10 * d[1], 1000 * d[0] + 199, 0, 0);
+            y.did(0).is(0);
+            if (d[2] < 0) continue;
+            y.run(10 * d[2], 1000 * d[0] + 199, 0, 0);
+            y.did(0).is(-2);
+        }
     }
 
     static void ticks() {
@@ -296,6 +305,11 @@ final class RunSentences {
         int[] shakes = {3, 961, 3, 961, 3};
         for (int t = 0; t < 5; t++) x.led(t, 2).is(shakes[t]);
         x.led(-1, 1).is(2);
+        // from none on in each RUN
+        x.run(0, 100004, 0, 0);
+        x.led(-1, 1).is(2);
+        x.run(0, 100001, 0, 0);
+        x.led(-1, 1).is(0);
     }
 
     static void knocks() {

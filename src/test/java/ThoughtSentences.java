@@ -153,6 +153,14 @@ final class ThoughtSentences {
         y.may(0, 309).is(66);
         y.lump(5099, 0);
         y.may(1, 310).is(1);
+        // with BEAT 900 and DAMP 9999 it shakes most at 1200: 14400 by 16299; at 1190 14161 by 16060
+        Asked z = new Asked();
+        z.floor(881, 909);
+        z.set(0, 900);
+        z.set(1, 9999);
+        z.may(0, 1190).is(1000);
+        z.may(0, 1199).is(1000);
+        z.may(0, 1200).is(998);
     }
 
     static void mayAnswers() {
@@ -260,6 +268,8 @@ final class ThoughtSentences {
             x.spread(d[0], 172, 0).is(d[1]);
             x.spread(d[0], 172, 1).is(d[2]);
         }
+        // of like ones the first
+        new Asked().spread(50, 172, 0).is(0);
     }
 
     static void spreadMean() {
@@ -433,6 +443,8 @@ final class ThoughtSentences {
         // as many are DONE: less walking, though more is LEFT
         better(3, 1200, rare, "t<1?1200;60", "t<2?1200;60");
         better(999, 1200, rare, "1200", "t<59?60;1200");
+        // as much walking, in the first TICK alone: less is LEFT
+        better(90, 1200, rare, "1200", "t<1?1200;60");
         // a mean of 6 by 9 is none, and LEFT is less
         better(90, 1200, rare, "t<1&d>149?1199;60", "60");
         // LEFT 449 and 441 by 9 are alike
@@ -720,6 +732,48 @@ final class ThoughtSentences {
         for (int k = 39; k >= 0; k--) x.undo().is(k);
         x.of(0, 1).is(1);
         x.counter(0).is(0);
+        fortyOfAllSorts();
+    }
+
+    /** 43 CHANGES, in turn DRY of LUMP 0, WET of LUMP 1, ANGLE of LUMP 2 and the COUNTERWEIGHT: the k-th tells 1 + k / 4. */
+    private static void fortyOfAllSorts() {
+        Asked x = new Asked().lump(5000, 0).lump(5000, 0).lump(5000, 0);
+        for (int k = 0; k < 43; k++) {
+            if (k % 4 == 3) x.counter(100 * toldBy(k));
+            else x.mend(k % 4, k % 4, toldBy(k));
+        }
+        x.count(4).is(40);
+        for (int k = 42; k >= 3; k--) {
+            x.undo().is(k - 3);
+            nowIs(x, k, k < 4 ? before(k) : toldBy(k - 4));
+        }
+        x.undo().is(-5);
+        for (int k = 3; k < 43; k++) {
+            x.redo().is(42 - k);
+            nowIs(x, k, toldBy(k));
+        }
+        x.redo().is(-5);
+    }
+
+    private static int toldBy(int k) {
+        return 1 + k / 4;
+    }
+
+    private static int before(int k) {
+        return k == 0 ? 50 : 0;
+    }
+
+    /** What the k-th of these CHANGES told is now v; the COUNTERWEIGHT is seen by X, as all LUMPS but 2 lie at ANGLE 0. */
+    private static void nowIs(Asked x, int k, int v) {
+        if (k % 4 < 3) {
+            x.of(k % 4, k % 4).is(v);
+            return;
+        }
+        int dry = (int) x.of(0, 0).answer();
+        int wet = (int) x.of(1, 1).answer();
+        int angle = (int) x.of(2, 2).answer();
+        int[] c = {1000, 866, 500, 0, -500, -866, -1000, -866, -500, 0, 500, 866};
+        x.load(1).is(100 * (dry + 50 + wet + v) + 50 * c[angle] / 10);
     }
 
     static void deedEndsThem() {
