@@ -342,6 +342,8 @@ final class RunSentences {
             x.led(-1, 2).is(hops[f]);
             x.led(2, 3).is(at[f]);
             x.led(2, 4).is(f == 2 ? 3 : 0);
+            // it KNOCKS whether it HOPS or not
+            x.led(-1, 1).is(3);
         }
     }
 

@@ -733,6 +733,7 @@ final class ThoughtSentences {
         x.of(0, 1).is(1);
         x.counter(0).is(0);
         fortyOfAllSorts();
+        fortyWithSomeUndone();
     }
 
     /** 43 CHANGES, in turn DRY of LUMP 0, WET of LUMP 1, ANGLE of LUMP 2 and the COUNTERWEIGHT: the k-th tells 1 + k / 4. */
@@ -753,6 +754,23 @@ final class ThoughtSentences {
             nowIs(x, k, toldBy(k));
         }
         x.redo().is(-5);
+    }
+
+    /** Of forty five are UNDONE, and others come: none is lost till there are more than forty again. */
+    private static void fortyWithSomeUndone() {
+        Asked x = new Asked().lump(100, 0);
+        for (int k = 1; k <= 40; k++) x.mend(0, 1, k);
+        for (int k = 39; k >= 35; k--) x.undo().is(k);
+        for (int k = 36; k <= 40; k++) {
+            x.mend(0, 1, 50 + k);
+            x.count(4).is(k);
+            x.redo().is(-5);
+        }
+        x.mend(0, 1, 91);
+        x.count(4).is(40);
+        for (int k = 39; k >= 0; k--) x.undo().is(k);
+        x.of(0, 1).is(1);
+        x.undo().is(-5);
     }
 
     private static int toldBy(int k) {
